@@ -6,6 +6,7 @@ public final class SnapshotTest {
         promise14Wrong();
         promise15Undo();
         promise15Most();
+        promise15Parts();
         promise15Everything();
         Check.end();
     }
@@ -101,6 +102,19 @@ public final class SnapshotTest {
         x.tie(0, 40);
         x.undo();
         Check.same("15: saved again and undone", x.cordOf(0, 0), 2);
+    }
+
+    private static void promise15Parts() {
+        HerdCords x = new HerdCords();
+        x.tie(0, 95);
+        x.tie(0, 7);
+        x.renew(0);
+        x.tie(0, 8);
+        x.undo();
+        x.undo();
+        Check.same("15: the first part again", x.part(0, 0), 95);
+        Check.same("15: the second part again", x.part(0, 1), 7);
+        Check.same("15: together", x.cordOf(0, 1), 102);
     }
 
     /** Each undoable call, one after the other, is undone to the very state before it. */

@@ -6,6 +6,7 @@ public final class TextTest {
         promise11Errors();
         promise11LongTexts();
         promise12Run();
+        promise12Longest();
         promise12Refused();
         promise12Wrong();
         Check.end();
@@ -110,6 +111,17 @@ public final class TextTest {
         Check.same("12: undone as one", x.undo(), 0);
         Check.same("12: nothing told then", x.count(0), 0);
         Check.same("12: the buffer is not brought back", x.clearBuffer(), 0);
+    }
+
+    private static void promise12Longest() {
+        HerdCords x = new HerdCords();
+        for (int time = 0; time < 14; time++) {
+            Check.type(x, "0+1;");
+        }
+        Check.type(x, "0+55");
+        Check.refuses("12: a full buffer", x, Check.STATE, () -> x.append(49));
+        Check.same("12: 15 orders in 60 characters", x.run(), 15);
+        Check.same("12: the sum of them", x.cordOf(0, 0), 69);
     }
 
     private static void promise12Refused() {

@@ -163,6 +163,8 @@ public final class WouldBeTest {
         Check.same("26: a share and both slots", x.digest(), digestOf(x, 1, 1, ""));
         x.slip(5, 1);
         Check.same("26: the share 1", x.digest(), digestOf(x, 1, 1, ""));
+        HerdCords edges = tied(95, 999000, 999904, 1139);
+        Check.same("26: just up to 95 and 1234, and up to 999 and 95 more", edges.digest(), digestOf(edges, 0, 0, ""));
     }
 
     private static long digestOf(HerdCords x, int slot0, int slot1, String text) {
