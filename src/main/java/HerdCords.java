@@ -143,7 +143,18 @@ public final class HerdCords {
             throw new IllegalArgumentException("the buffer does not tell orders");
         }
         history.save(herd);
-        int done = doOrders();
+        int done = 0;
+        boolean refused = false;
+        reader.begin();
+        for (int at = 0; at <= length && !refused; at++) {
+            if (at == length || buffer[at] == OrderReader.BETWEEN) {
+                refused = !doOrderRead();
+                done += refused ? 0 : 1;
+            }
+            if (at < length) {
+                reader.takes(buffer[at]);
+            }
+        }
         length = 0;
         return done;
     }
@@ -361,23 +372,7 @@ public final class HerdCords {
         return length;
     }
 
-    private int doOrders() {
-        int done = 0;
-        reader.begin();
-        for (int at = 0; at <= length; at++) {
-            if (at == length || buffer[at] == OrderReader.BETWEEN) {
-                if (!doOrderRead()) {
-                    return done;
-                }
-                done++;
-            }
-            if (at < length) {
-                reader.takes(buffer[at]);
-            }
-        }
-        return done;
-    }
-
+    /** Does the order that the reader stands behind; false if it is refused. */
     private boolean doOrderRead() {
         int refusedBefore = herd.refused;
         Cord cord = herd.cords[reader.cord];

@@ -1,8 +1,25 @@
+import java.util.ArrayList;
+import java.util.List;
+import java.util.function.Consumer;
+import java.util.function.Supplier;
+
 /** Counts answers that are not as due, prints them, and ends a test by them. */
 final class Check {
     private static int wrong = 0;
+    private static String about = "";
 
     private Check() {
+    }
+
+    /** The checks behind it are about this sentence of the document, which is printed with each that fails. */
+    static void sentence(String section, String words) {
+        Sentences.said(section, words);
+        about = section + ", \"" + words + "\": ";
+    }
+
+    /** The checks behind it are about no sentence alone. */
+    static void noSentence() {
+        about = "";
     }
 
     static void same(String what, long got, long due) {
@@ -37,9 +54,62 @@ final class Check {
         same(what + ": the digest behind it", x.digest(), before);
     }
 
+    /** The exception is due on an object made so, and that nothing at all is changed by the call. */
+    static void refuses(String what, Supplier<HerdCords> made, Class<? extends RuntimeException> due,
+            Consumer<HerdCords> call) {
+        HerdCords x = made.get();
+        isThrown(what, due, () -> call.accept(x));
+        sameWhole(what, x, made.get());
+    }
+
+    /** Nothing at all is changed by the call on an object made so. */
+    static void changesNothing(String what, Supplier<HerdCords> made, Consumer<HerdCords> call) {
+        HerdCords x = made.get();
+        call.accept(x);
+        sameWhole(what, x, made.get());
+    }
+
+    /** The call saves the state from before it, so that undo leads back; the object has room for a saved state yet. */
+    static void undoable(String what, Supplier<HerdCords> made, Consumer<HerdCords> call) {
+        HerdCords x = made.get();
+        HerdCords twin = made.get();
+        int saved = x.count(9);
+        call.accept(x);
+        same(what + ": saved states", x.count(9), saved + 1);
+        same(what + ": undone", x.undo(), saved);
+        sameWhole(what + " and undo", x, twin);
+    }
+
+    /** Both are used up by it: what is saved and kept can only be told by going back to it. */
+    static void sameWhole(String what, HerdCords x, HerdCords due) {
+        List<Long> got = wholeOf(x);
+        List<Long> want = wholeOf(due);
+        if (!got.equals(want)) {
+            fail(what + " changed something: digests " + got + ", due are " + want);
+        }
+    }
+
+    private static List<Long> wholeOf(HerdCords x) {
+        List<Long> all = new ArrayList<>();
+        all.add(x.digest());
+        for (int left = x.count(9); left > 0; left--) {
+            x.undo();
+            all.add(x.digest());
+        }
+        for (int slot = 0; slot <= 1; slot++) {
+            try {
+                x.goBack(slot);
+                all.add(x.digest());
+            } catch (IllegalStateException e) {
+                all.add(-1L);
+            }
+        }
+        return all;
+    }
+
     static void fail(String text) {
         wrong++;
-        System.out.println(text);
+        System.out.println(about + text);
     }
 
     static void end() {

@@ -3,22 +3,29 @@ import java.util.function.LongSupplier;
 
 /** Runs of mixed calls, the same ones each time, answered by the class and by the model alike. */
 public final class ModelTest {
-    private static final int RUNS = 150;
-    /** With a digest behind each step, and some steps of several calls, a run may go on beyond the 512th call. */
-    private static final int STEPS = 256;
+    private static final int RUNS = 300;
+    private static final int MOST_CALLS = 512;
+    /** A step may be of so many calls, with the digest behind it; a run ends before one could go beyond the 512th. */
+    private static final int CALLS_OF_A_STEP = 70;
     private static final int[] NUMBERS = {1, 2, 5, 9, 10, 11, 19, 90, 95, 99, 100, 500, 909, 999, 1000, 1234, 9999, 10000,
         50000, 90000, 99999, 100000, 300000, 500000, 900000, 999998, 999999};
     private static final String[] NAMES = {"tie", "add", "slip", "mend", "renew", "dye", "set", "type", "clearBuffer",
         "firstError", "run", "keep", "goBack", "undo", "cordOf", "placeOf", "part", "count", "byHue", "whyNot", "howOften",
         "cordsFor", "fullest", "closedShare"};
     /** How often each of the names is chosen; far more ties than new cords, or no place would ever become full. */
-    private static final int[] WEIGHTS = {24, 8, 14, 8, 1, 3, 2, 8, 1, 3, 8, 2, 2, 4, 3, 3, 3, 3, 2, 3, 3, 4, 1, 1};
+    private static final int[] WEIGHTS = {26, 8, 12, 6, 1, 2, 2, 4, 1, 1, 5, 1, 1, 2, 2, 2, 2, 2, 2, 3, 3, 4, 1, 1};
+
+    /** Kinds of runs: on all cords, with numbers at edges, with small ones on two cords; and, else, mixed on three. */
+    private static final int SPREAD = 0;
+    private static final int CHOSEN = 2;
+    private static final int SMALL = 3;
 
     private final TreeMap<String, Integer> answered = new TreeMap<>();
     private long seed;
     private HerdCords x;
     private Model model;
-    private int big;
+    private int kind;
+    private int calls;
 
     public static void main(String[] args) {
         ModelTest test = new ModelTest();
@@ -36,11 +43,13 @@ public final class ModelTest {
 
     private void oneRun(int run) {
         seed = 77 + run;
-        big = run % 3;
+        kind = run % 4;
         x = new HerdCords();
         model = new Model();
-        for (int step = 0; step < STEPS; step++) {
+        calls = 0;
+        for (int step = 0; calls + CALLS_OF_A_STEP <= MOST_CALLS; step++) {
             String what = oneStep();
+            calls++;
             if (x.digest() != model.digest()) {
                 Check.fail("run " + run + ", step " + step + ": another digest behind " + what);
                 return;
@@ -64,7 +73,7 @@ public final class ModelTest {
     }
 
     private int cord() {
-        return below(30) == 0 ? (below(2) == 0 ? -1 : 7) : below(big == 0 ? 7 : 3);
+        return below(30) == 0 ? (below(2) == 0 ? -1 : 7) : below(kind == SPREAD ? 7 : kind == SMALL ? 2 : 3);
     }
 
     private int upTo(int most) {
@@ -75,7 +84,10 @@ public final class ModelTest {
         if (below(30) == 0) {
             return below(2) == 0 ? 0 : 1000000;
         }
-        return big == 2 ? NUMBERS[below(NUMBERS.length)] : 1 + below(below(2) == 0 ? 99 : 30000);
+        if (kind == SMALL) {
+            return 1 + below(below(8) == 0 ? 99 : 4);
+        }
+        return kind == CHOSEN ? NUMBERS[below(NUMBERS.length)] : 1 + below(below(2) == 0 ? 99 : 30000);
     }
 
     private void call(String name) {
@@ -148,7 +160,7 @@ public final class ModelTest {
     }
 
     private void type() {
-        if (below(4) != 0) {
+        if (below(kind == CHOSEN ? 2 : 4) != 0) {
             same("clearBuffer", () -> x.clearBuffer(), () -> model.clearBuffer());
         }
         StringBuilder text = new StringBuilder();
@@ -176,6 +188,7 @@ public final class ModelTest {
     }
 
     private void same(String name, LongSupplier call, LongSupplier due) {
+        calls++;
         String got = outcome(call);
         String want = outcome(due);
         if (!got.equals(want)) {
@@ -198,7 +211,7 @@ public final class ModelTest {
             "slip -1", "slip 0", "slip 8", "mend 0", "mend 1", "mend -1", "mend -2", "run 0", "run 1", "run 2", "run 3",
             "run 4", "run IllegalArgumentException", "append IllegalStateException", "goBack IllegalStateException",
             "undo IllegalStateException", "undo 5", "whyNot 0", "whyNot 1", "whyNot 2", "whyNot 3", "howOften 0",
-            "howOften 16", "cordsFor -1", "cordsFor 127", "fullest 6"};
+            "howOften 16", "cordsFor -1", "cordsFor 31", "fullest 6"};
         for (String answer : due) {
             if (!answered.containsKey(answer)) {
                 Check.fail("no run met " + answer);
